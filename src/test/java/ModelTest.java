@@ -17,18 +17,24 @@ public final class ModelTest {
     private final int places;
     private final int span;
     private final int wildness;
+    /** Few lines and loads that are all alike, so that many choices are equally good. */
+    private final boolean isNarrow;
     private final LateRoutes routes = new LateRoutes();
     private final PlainRoutes plain = new PlainRoutes();
     private int calls = 0;
     private int lineCount = 0;
     private int loadCount = 0;
+    /** What has been made, so that most calls can be ones that fit. */
+    private final int[] lineTo = new int[13];
+    private final int[] loadLine = new int[7];
 
     private ModelTest(int run) {
         random = new Random(run);
         name = "run " + run + ", call ";
-        places = 3 + random.nextInt(2);
+        isNarrow = run % 4 == 1;
+        places = isNarrow ? 3 : 3 + random.nextInt(2);
         span = random.nextBoolean() ? 120 : 30;
-        wildness = run % 3 == 0 ? 8 : 40;
+        wildness = run % 3 == 0 ? 8 : 100;
     }
 
     public static void main(String[] args) {
@@ -45,7 +51,7 @@ public final class ModelTest {
         }
         for (int i = 0; i < wanted && calls < MAX_CALLS - 8; i++) {
             switch (random.nextInt(14)) {
-                case 0, 1 -> callLine();
+                case 0, 1 -> callLineIfWanted();
                 case 2, 3 -> callLoad();
                 case 4, 5, 6, 7 -> callOption();
                 case 8 -> callWaits();
@@ -81,34 +87,48 @@ public final class ModelTest {
         return (int) pick(least, greatest);
     }
 
+    private void callLineIfWanted() {
+        if (!isNarrow) {
+            callLine();
+        }
+    }
+
     private void callLine() {
-        int from = pickInt(0, places - 2);
+        int from = isNarrow ? lineCount % 2 : pickInt(0, places - 2);
         int to = isWild() ? (int) wild() : from + 1;
         long leaves = pick(0, span) + (long) Math.max(0, Math.min(from, 9)) * span / 3;
         long arrives = isWild() ? wild() : leaves + 1 + random.nextInt(span / 3);
         long got = routes.line(from, to, leaves, arrives);
         due("line(" + from + ", " + to + ", " + leaves + ", " + arrives + ")", got,
             plain.line(from, to, leaves, arrives));
-        lineCount = got > 0 ? (int) got : lineCount;
+        if (got > 0) {
+            lineCount = (int) got;
+            lineTo[lineCount] = to;
+        }
     }
 
     private void callLoad() {
         int line = pickInt(1, Math.max(1, lineCount));
-        int to = pickInt(1, places - 1);
-        long due = random.nextInt(4) == 0 ? pick(0, 20000) : pick(0, 4L * span);
-        int weight = random.nextInt(3) == 0 ? pickInt(1, 100) : pickInt(1, 3);
+        boolean fits = line >= 1 && line <= lineCount && random.nextInt(6) > 0;
+        int to = fits ? lineTo[line] + 1 : pickInt(1, places - 1);
+        long due = isNarrow ? 2L * span
+            : random.nextInt(4) == 0 ? pick(0, 20000) : pick(0, 4L * span);
+        int weight = isNarrow ? 1 : random.nextInt(3) == 0 ? pickInt(1, 100) : pickInt(1, 3);
         long got = routes.load(line, to, due, weight);
         due("load(" + line + ", " + to + ", " + due + ", " + weight + ")", got,
             plain.load(line, to, due, weight));
-        loadCount = got > 0 ? (int) got : loadCount;
+        if (got > 0) {
+            loadCount = (int) got;
+            loadLine[loadCount] = line;
+        }
     }
 
     private void callOption() {
-        for (int i = 0; i < 4; i++) {
+        for (int i = 0; i < 3; i++) {
             int load = pickInt(1, Math.max(1, loadCount));
             int kind = random.nextInt(12) == 0 ? pickInt(-1, 3) : random.nextInt(5) / 2;
-            int line = pickInt(1, Math.max(1, lineCount));
-            long cost = random.nextInt(3) == 0 ? pick(0, 100) : random.nextInt(2);
+            int line = pickOnward(load);
+            long cost = isNarrow ? 0 : random.nextInt(3) == 0 ? pick(0, 100) : random.nextInt(2);
             long got = routes.option(load, kind, line, cost);
             due("option(" + load + ", " + kind + ", " + line + ", " + cost + ")", got,
                 plain.option(load, kind, line, cost));
@@ -116,6 +136,19 @@ public final class ModelTest {
                 return;
             }
         }
+    }
+
+    /** Mostly a line that goes on from where the load's first one ends. */
+    private int pickOnward(int load) {
+        int line = pickInt(1, Math.max(1, lineCount));
+        for (int i = 0; i < 6 && load >= 1 && load <= loadCount; i++) {
+            int wanted = lineTo[loadLine[load]] + 1;
+            if (line >= 1 && line <= lineCount && lineTo[line] == wanted) {
+                return line;
+            }
+            line = pickInt(1, Math.max(1, lineCount));
+        }
+        return line;
     }
 
     private void callWaits() {

@@ -22,6 +22,7 @@ public final class PromiseTest {
         promise8SolveLeastOption();
         promise8SolveCostOfMissed();
         promise8SolveTogether();
+        promise8SolveLastOfAllChoices();
         promise9Chosen();
         promise10ArrivalKinds();
         promise10ArrivalOfChain();
@@ -397,6 +398,21 @@ public final class PromiseTest {
         due("8: first", x.arrival(1), 105);
         due("8: second", x.arrival(2), 135);
         due("8: solved again", x.solve(), 10);
+    }
+
+    /** All the room there is, and the very last choice is the best one. */
+    private static void promise8SolveLastOfAllChoices() {
+        LateRoutes x = threeLines();
+        for (int load = 1; load <= 6; load++) {
+            x.load(1, 2, 20000, 1);
+            for (int i = 0; i < 4; i++) {
+                x.option(load, i % 3, 3, 3 - i);
+            }
+        }
+        due("8: no costs", x.solve(), 0);
+        for (int load = 1; load <= 6; load++) {
+            due("8: the last option", x.chosen(load), 3);
+        }
     }
 
     private static void promise9Chosen() {
